@@ -230,14 +230,13 @@ public final class TavernBench {
         if (!isDay(day)) {
             return BAD;
         }
-        int unvisited = unvisitedOn(day);
-        if (unvisited == 0) {
-            if (!anyLicence(day)) {
-                return NO;
-            }
-            beginRound();
-            unvisited = unvisitedOn(day);
+        if (!anyLicence(day)) {
+            return NO;
         }
+        if (unvisitedOn(day) == 0) {
+            beginRound();
+        }
+        int unvisited = unvisitedOn(day);
         if (unvisited <= 0) {
             return NO;
         }
@@ -295,7 +294,7 @@ public final class TavernBench {
 
     private static boolean areHours(int from, int to) {
         boolean shut = from == 0 && to == 0;
-        return shut || isIn(from, 0, DAY_MINUTES - 1) && isIn(to, from + 1, LATEST_SHUTTING);
+        return shut || (isIn(from, 0, DAY_MINUTES - 1) && isIn(to, from + 1, LATEST_SHUTTING));
     }
 
     private static boolean isEvent(int kind, int v) {
@@ -405,7 +404,7 @@ public final class TavernBench {
                 long otherWeighed = debt * other.worthOn(day);
                 long otherRest = otherWeighed % allWorths;
                 left -= otherWeighed / allWorths;
-                if (otherRest > rest || otherRest == rest && i < number) {
+                if (otherRest > rest || (otherRest == rest && i < number)) {
                     served++;
                 }
             }

@@ -499,6 +499,10 @@ public final class PromiseTests {
     y.event(0, 229, 2, 0);
     due("second death without one", y.on(0, 257, 0), 3);
     due("the day ahead", y.on(0, 256, 0), 1);
+    TavernBench z = oneHouse(100);
+    z.event(0, 210, 3, 0);
+    z.event(0, 200, 2, 0);
+    due("transfer told ahead of the death", z.on(0, 228, 0), 1);
   }
 
   private static void statesOrder() {
