@@ -460,9 +460,10 @@ public final class BoundaryTests {
   private static void askNear() {
     of(6, "nearer than NEAR (0 to 200; 20 at first; the square of how far is less than its square)");
     // Each row: NEAR, how far off along x and y, what is due.
-    int[][] rows = {{20, 0, 0, -12}, {20, 19, 0, -12}, {20, 0, 19, -12}, {20, 7, 18, -12}, {20, 20, 0, 1}, {20, 0, 20, 1},
-      {20, 12, 16, 1}, {0, 0, 0, 1}, {1, 0, 0, -12}, {1, 1, 0, 1}, {1, 0, 1, 1}, {200, 199, 0, -12}, {200, 0, 199, -12},
-      {200, 56, 191, -12}, {200, 200, 0, 1}, {200, 0, 200, 1}, {200, 120, 160, 1}, {200, 499, 499, 1}};
+    int[][] rows = {{20, 0, 0, -12}, {20, 19, 0, -12}, {20, 0, 19, -12}, {20, 7, 18, -12}, {20, 20, 0, 1},
+      {20, 0, 20, 1}, {20, 12, 16, 1}, {0, 0, 0, 1}, {1, 0, 0, -12}, {1, 1, 0, 1}, {1, 0, 1, 1},
+      {200, 199, 0, -12}, {200, 0, 199, -12}, {200, 56, 191, -12}, {200, 200, 0, 1}, {200, 0, 200, 1},
+      {200, 120, 160, 1}, {200, 499, 499, 1}};
     for (int[] row : rows) {
       TavernBench x = new TavernBench();
       due("first", x.ask(500, 500, 0, 1, 0, 100), 0);
@@ -818,6 +819,18 @@ public final class BoundaryTests {
     due("three are left", z.on(0, 3999, 0), 2);
     z.event(0, 3999, 1, 2);
     due("two are left", z.on(0, 3999, 0), 1);
+    int[][] orders = {{300, 400}, {400, 300}, {300, 300}};
+    for (int[] order : orders) {
+      TavernBench w = houseFrom(100);
+      for (int i = 0; i < 3; i++) {
+        w.event(0, 200, 0, i);
+      }
+      w.event(0, order[0], 1, 1);
+      w.event(0, order[1], 1, 1);
+      due("quashed twice, ahead of the first", w.on(0, 299, 0), 2);
+      due("quashed twice, from the first on", w.on(0, 300, 0), 1);
+      due("it counts but once", w.on(0, 400, 1), 2);
+    }
   }
 
   private static void onLapsed() {
@@ -884,6 +897,24 @@ public final class BoundaryTests {
       String told = "ended, lapsed, surplus from " + c[0] + ", " + c[1] + ", " + c[2];
       due(told, y.on(0, 130, 0), c[3]);
       due(told + ", ahead of all", y.on(0, 127, 0), 1);
+    }
+  }
+
+  private static void onLeastOfLike() {
+    of(9, "of several the least DAY from which: of like ones, too");
+    int[][] orders = {{200, 201, 202, 300, 301}, {301, 300, 202, 201, 200}, {300, 200, 301, 202, 201}};
+    for (int[] order : orders) {
+      TavernBench x = houseFrom(100);
+      for (int i = 0; i < 5; i++) {
+        x.event(0, order[i], 0, i);
+      }
+      x.event(0, 203, 6, 0);
+      due("ended on 202, surplus on 203", x.on(0, 203, 0), 2);
+      due("still, behind two offences more", x.on(0, 3999, 0), 2);
+      x.event(0, 201, 6, 0);
+      due("surplus on 201, too", x.on(0, 3999, 0), 4);
+      x.event(0, 400, 6, 0);
+      due("and on 400", x.on(0, 3999, 0), 4);
     }
   }
 
@@ -1277,9 +1308,36 @@ public final class BoundaryTests {
     due("the last day", y.visit(3999), NO);
     due("none was", y.count(4), 0);
     due("the day ahead of surplus", y.visit(100), 0);
-    of(14, "BAD; NO");
-    due("bad", y.visit(-1), BAD);
-    due("bad", y.visit(4000), BAD);
+    of(14, "BAD; NO: nothing is drawn then");
+    TavernBench z = row(30, 1);
+    due("bad", z.visit(-1), BAD);
+    due("bad", z.visit(4000), BAD);
+    due("none has a LICENCE", z.visit(99), NO);
+    due("the first draw", z.visit(100), 16807 % 30);
+  }
+
+  private static void visitLicensed() {
+    of(14, "of those that have a LICENCE and were not visited in this ROUND, by numbers");
+    for (int seed = 1; seed < 9; seed++) {
+      TavernBench x = new TavernBench();
+      int[] from = {200, 100, 200, 100, 100, 200};
+      for (int i = 0; i < 6; i++) {
+        due("ask of house " + i, x.ask(33 * i, 0, 0, 1, 0, from[i]), i);
+      }
+      x.seed(seed);
+      int[] licensed = {1, 3, 4};
+      int at = (int) (next(seed) % 3);
+      due("of 1, 3, 4", x.visit(100), licensed[at]);
+      int[] left = {licensed[at == 0 ? 1 : 0], licensed[at == 2 ? 1 : 2]};
+      at = (int) (next(next(seed)) % 2);
+      due("of the two others", x.visit(199), left[at]);
+      int third = left[1 - at];
+      due("the third", x.visit(100), third);
+      x.event(0, 300, 6, 0);
+      at = (int) (next(next(next(next(seed)))) % 2);
+      due("of 2 and 5", x.visit(300), at == 0 ? 2 : 5);
+      due("all in one ROUND", x.count(4), 4);
+    }
   }
 
   private static void visitRounds() {
@@ -1306,6 +1364,14 @@ public final class BoundaryTests {
     due("of those that have a LICENCE", again == third ? 1 : 0, 0);
     due("the others are left in it", y.visit(100) + y.visit(100) + again, 0 + 1 + 2);
     due("the ROUND is whole", y.count(4), 3);
+    TavernBench z = row(3, 1);
+    int gone = z.visit(100);
+    z.event(gone, 101, 6, 0);
+    due("the two others", z.visit(101) + z.visit(101) + gone, 0 + 1 + 2);
+    int one = z.visit(101);
+    due("a new ROUND on 101", z.count(4), 1);
+    due("the one that is gone by then is not visited in it", z.visit(100) + z.visit(100) + one, 0 + 1 + 2);
+    due("a whole ROUND", z.count(4), 3);
   }
 
   private static void seedBounds() {
@@ -1437,6 +1503,7 @@ public final class BoundaryTests {
     onQuashed();
     onLapsed();
     onSurplus();
+    onLeastOfLike();
     onCondition();
   }
 
@@ -1457,6 +1524,7 @@ public final class BoundaryTests {
     owesGreat();
     visitDraws();
     visitOne();
+    visitLicensed();
     visitRounds();
     seedBounds();
     countBounds();

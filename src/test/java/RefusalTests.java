@@ -212,7 +212,8 @@ public final class RefusalTests {
     TavernBench x = new TavernBench();
     int[][] calls = {{BAD, EVENT, 0, 90, 2, 0}, {BAD, WORTH, 0, 90, 1}, {BAD, ON, 0, 90, 0}, {BAD, OPEN, 0, 90, 0},
       {BAD, MINUTES, 0, 90}, {BAD, OWES, 0, 0}, {NO, VISIT, 0}, {NO, VISIT, 3999}, {0, LAW_ON, 0, 0, 0},
-      {0, LAW_ON, 2, 3999, 1}, {0, COUNT, 0}, {0, COUNT, 1}, {0, COUNT, 2}, {0, COUNT, 3}, {0, COUNT, 4}, {0, COUNT, 5}};
+      {0, LAW_ON, 2, 3999, 1}, {0, COUNT, 0}, {0, COUNT, 1}, {0, COUNT, 2}, {0, COUNT, 3}, {0, COUNT, 4},
+      {0, COUNT, 5}};
     for (int[] call : calls) {
       due("empty: " + text(call), answer(x, call), call[0]);
     }
