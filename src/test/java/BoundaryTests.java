@@ -1169,6 +1169,42 @@ public final class BoundaryTests {
     due("alone", z.owes(0, 0), 0);
   }
 
+  private static void owesOfOneWithoutLicence() {
+    of(13, "SURPLUS HOUSE s, of which that EVENT is the first such");
+    TavernBench x = row(2, 10);
+    x.event(0, 200, 2, 0);
+    due("lapsed, but not SURPLUS", x.owes(1, 0), NO);
+    x.worth(0, 250, 20);
+    x.event(0, 300, 6, 0);
+    due("it was lapsed by then", x.on(0, 300, 0), 3);
+    due("lapsed, then SURPLUS", x.owes(1, 0), 60);
+    x.event(0, 240, 6, 0);
+    due("the first of two, both when it was lapsed", x.owes(1, 0), 30);
+    TavernBench y = row(2, 10);
+    for (int i = 0; i < 3; i++) {
+      y.event(0, 200, 0, i);
+    }
+    due("ended, but not SURPLUS", y.owes(1, 0), NO);
+    y.event(0, 300, 6, 0);
+    due("it was ended by then", y.on(0, 300, 0), 2);
+    due("ended, then SURPLUS", y.owes(1, 0), 30);
+    y.event(0, 400, 1, 0);
+    due("the end is quashed since", y.on(0, 400, 0), 4);
+    due("it makes no difference", y.owes(1, 0), 30);
+    of(13, "0: it has no LICENCE then");
+    TavernBench z = row(3, 10);
+    for (int i = 0; i < 3; i++) {
+      z.event(1, 200, 0, i);
+    }
+    z.event(0, 300, 6, 0);
+    due("ended then", z.owes(1, 0), 0);
+    due("so the other pays whole", z.owes(2, 0), 30);
+    z.event(1, 301, 1, 0);
+    due("quashed the day behind", z.owes(1, 0), 0);
+    z.event(1, 300, 1, 1);
+    due("quashed on that day: it has a LICENCE then", z.owes(1, 0), 15);
+  }
+
   private static void owesParts() {
     of(13, "each its part, cut; what is left one each to those with the greatest rest");
     TavernBench x = row(4, 1);
@@ -1519,6 +1555,7 @@ public final class BoundaryTests {
 
   private static void fundAndVisits() {
     owesArguments();
+    owesOfOneWithoutLicence();
     owesParts();
     owesSmall();
     owesGreat();

@@ -94,10 +94,43 @@ public final class FaceTests {
     }
   }
 
+  // A method begins with a line that opens a brace at the depth of a class's members, and ends with the brace's.
+  private static void lookAtSizes() throws IOException {
+    Class<?>[] inside = TavernBench.class.getDeclaredClasses();
+    must(inside.length < 12, "at most twelve classes");
+    must(fieldsOf(TavernBench.class) <= 20, "at most twenty fields: TavernBench");
+    for (Class<?> inner : inside) {
+      must(fieldsOf(inner) <= 20, "at most twenty fields: " + inner.getName());
+    }
+    String[] lines = Files.readString(Path.of(SOURCE)).split("\n");
+    int methods = 0;
+    for (int i = 0; i < lines.length; i++) {
+      if (lines[i].matches("( {4}| {8})\\w.*\\) \\{") && !lines[i].matches(" *(if|for|while|switch)\\b.*")) {
+        String end = lines[i].replaceAll("\\S.*", "") + "}";
+        int last = i;
+        while (last < lines.length && !lines[last].equals(end)) {
+          last++;
+        }
+        must(last - i < 60, "at most some sixty lines: line " + (i + 1));
+        methods++;
+      }
+    }
+    must(methods >= 16, "the methods are found in the text");
+  }
+
+  private static int fieldsOf(Class<?> c) {
+    int fields = 0;
+    for (Field f : c.getDeclaredFields()) {
+      fields += Modifier.isStatic(f.getModifiers()) ? 0 : 1;
+    }
+    return fields;
+  }
+
   public static void main(String[] args) throws IOException {
     lookAtMethods();
     lookAtFields();
     lookAtText();
+    lookAtSizes();
     System.out.println("FaceTests: " + wrong + " rules not kept");
     if (wrong != 0) {
       System.exit(1);
